@@ -181,6 +181,8 @@ public final class GaugeBench {
 
     /** A block that is open while its routine is written, with the part of it that is open. */
     static final class Block {
+        private static final int MOST_CATCHES = 3;
+
         final Step opener;
         final Block outer;
         Step part;
@@ -202,7 +204,7 @@ public final class GaugeBench {
 
         boolean takesPart(int what) {
             return opener.what == Step.TRY && part.what != Step.FINALLY
-                && (what != Step.CATCH || catches < 3);
+                && (what != Step.CATCH || catches < MOST_CATCHES);
         }
     }
 
@@ -747,7 +749,7 @@ public final class GaugeBench {
 
         private int doStep(Routine routine, Step step, Fault caught, int calls) {
             if (!isCounted()) {
-                return leaveBy(Fault.TIRED, step);
+                return throwNew(Fault.TIRED, step);
             }
             switch (step.what) {
                 case Step.TRY:
@@ -769,7 +771,7 @@ public final class GaugeBench {
                 case Step.TELL:
                     return caught == null ? AT_END : useCaught(step, caught);
                 default:
-                    return leaveBy(work(step), step);
+                    return throwNew(work(step), step);
             }
         }
 
@@ -781,7 +783,8 @@ public final class GaugeBench {
             return true;
         }
 
-        private int leaveBy(int kind, Step step) {
+        /** A fault of that kind, unless there is none. */
+        private int throwNew(int kind, Step step) {
             return kind == Fault.NONE ? AT_END : leaveBy(new Fault(kind, step.place, 0, null));
         }
 
@@ -822,7 +825,7 @@ public final class GaugeBench {
         private int doLoop(Routine routine, Step first, Fault caught, int calls) {
             for (int round = 0; round < first.a; round++) {
                 if (!isCounted()) {
-                    return leaveBy(Fault.TIRED, first);
+                    return throwNew(Fault.TIRED, first);
                 }
                 int left = doPart(routine, first, caught, calls);
                 if (left != AT_END) {
@@ -835,7 +838,7 @@ public final class GaugeBench {
         private int doCall(Step step, int calls) {
             Routine called = routineAt(step.a);
             if (called == null || called.open > 0 || calls >= MOST_CALLS) {
-                return leaveBy(Fault.TIRED, step);
+                return throwNew(Fault.TIRED, step);
             }
             int left = doSteps(called, 0, called.used, null, calls + 1);
             return left == BY_FAULT ? BY_FAULT : AT_END;
@@ -858,7 +861,7 @@ public final class GaugeBench {
                     return leaveBy(caught);
                 case Step.WRAP:
                     return caught.earlierOnes >= MOST_EARLIER
-                        ? leaveBy(Fault.TIRED, step)
+                        ? throwNew(Fault.TIRED, step)
                         : leaveBy(new Fault(Fault.WRAPPED, step.place, step.a, caught));
                 default:
                     numbers.append(caught.kind);

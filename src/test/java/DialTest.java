@@ -126,5 +126,9 @@ public final class DialTest {
         Script s = new Script(checks).add(Script.SET, 0, 40).add(Script.MAKE, 3, 0).add(Script.SET, 0, 0);
         s.add(Script.COUNT, 3, 2).runs(0);
         checks.due("dial(2)", s.x.dial(2), 5.0);
+        s.clear().add(Script.MAKE, 4, 0).add(Script.COUNT, 4, 2).runs(0);
+        checks.due("dial(2) of a row without places", s.x.dial(2), 0.0);
+        s.clear().add(Script.SET, 2, 8).add(Script.COUNT, 5, 2).runs(3);
+        checks.due("dial(2) that a MISSING row left", s.x.dial(2), 1.0);
     }
 }

@@ -46,7 +46,7 @@ public final class LogTest {
     }
 
     private static void longest() {
-        // TRY, THROW, then 40 rounds of TELLs: as many as 200 steps leave room for.
+        // As many TELLs as 200 steps leave room for.
         Script s = new Script(checks).add(Script.TRY).add(Script.THROW, 3).add(Script.CATCH, 1).add(Script.LOOP, 6);
         for (int i = 0; i < 32; i++) {
             s.add(Script.TELL);

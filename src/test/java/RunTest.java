@@ -15,6 +15,7 @@ public final class RunTest {
         ifs();
         calls();
         callsAreLimited();
+        deepest();
         tired();
         tiredInParts();
         rowsAndFaults();
@@ -126,6 +127,10 @@ public final class RunTest {
             .add(Script.TRY).add(Script.COUNT, 0, 0).add(Script.CATCH, 1).add(Script.END)
             .add(Script.LOOP, 2).add(Script.LEAVE).add(Script.END).add(Script.END)
             .runs(9).counts(7, 1, 1).faults(9, 1, 2, 1, 0, 1);
+        // What goes on is not thrown by a TRY within the FINALLY part.
+        script().add(Script.TRY).add(Script.THROW, 1).add(Script.FINALLY)
+            .add(Script.TRY).add(Script.NOTE, 0).add(Script.CATCH, 1).add(Script.NOTE, 0).add(Script.NOTE, 0).add(Script.END).add(Script.END)
+            .runs(9).logs(0).counts(4, 0, 1).faults(9, 1, 2, 1, 0, 1);
         // In a FINALLY part the innermost CATCH part is the one around its TRY.
         script().add(Script.TRY).add(Script.THROW, 1).add(Script.CATCH, 1)
             .add(Script.TRY).add(Script.THROW, 2).add(Script.CATCH, 1).add(Script.TELL).add(Script.FINALLY).add(Script.TELL).add(Script.END)
@@ -236,6 +241,28 @@ public final class RunTest {
             .runs(0).counts(1 + 6 * 6, 6, 0);
         s = script().choose(1).add(Script.CALL, 2).choose(2).add(Script.CALL, 3).choose(3).add(Script.CALL, 1);
         s.choose(0).add(Script.CALL, 1).runs(10).counts(5, 0, 0).faults(10, 40, 1, 0, 0, 40);
+    }
+
+    /** Six blocks in each of five routines that stand open at once, by their CATCH and FINALLY parts. */
+    private static void deepest() {
+        Script s = script();
+        for (int i = 0; i < 6; i++) {
+            s.add(Script.TRY).add(Script.FINALLY);
+        }
+        s.add(Script.CALL, 0);
+        for (int i = 0; i < 6; i++) {
+            s.add(Script.END);
+        }
+        s.runs(10).counts(35, 0, 30).faults(10, 12, 1, 0, 0, 12);
+        s = script();
+        for (int i = 0; i < 6; i++) {
+            s.add(Script.TRY).add(Script.THROW, i).add(Script.CATCH, 9);
+        }
+        s.add(Script.CALL, 0);
+        for (int i = 0; i < 6; i++) {
+            s.add(Script.END);
+        }
+        s.runs(10).counts(65, 30, 0).faults(10, 18, 1, 0, 0, 18);
     }
 
     private static void tired() {
