@@ -586,17 +586,9 @@ public final class GaugeBench {
             }
         }
 
+        /** What an int keeps when it wraps are just the lower bits of the long. */
         static int whole(int sum, int x, int y) {
-            switch (sum) {
-                case 0: return x + y;
-                case 1: return x - y;
-                case 2: return x * y;
-                case QUOTIENT: return y == 0 ? 0 : x / y;
-                case REST: return y == 0 ? 0 : x % y;
-                case 5: return x & y;
-                case 6: return x | y;
-                default: return x ^ y;
-            }
+            return (int) wide(sum, x, y);
         }
 
         static long wide(int sum, long x, long y) {

@@ -1,5 +1,5 @@
 /** Promises 2 and 4: choose and clear. */
-public final class ChooseAndClearTest {
+public final class ChooseAndClearTest implements Steps {
     public static void main(String[] args) {
         Checks checks = new Checks("promises 2 and 4");
         chooses(checks);
@@ -9,8 +9,8 @@ public final class ChooseAndClearTest {
 
     private static void chooses(Checks checks) {
         Script s = new Script(checks);
-        s.add(Script.SET, 0, 8).add(Script.SET, 1, 8);
-        s.choose(3).add(Script.SET, 0, 80);
+        s.add(SET, 0, 8).add(SET, 1, 8);
+        s.choose(3).add(SET, 0, 80);
         int[] none = {-1, 4, 5, Integer.MAX_VALUE, Integer.MIN_VALUE};
         for (int r : none) {
             checks.due("choose(" + r + ")", s.x.choose(r), -1);
@@ -23,19 +23,19 @@ public final class ChooseAndClearTest {
         checks.due("dial(1), not set by routine 3", s.x.dial(1), 0.0);
 
         // Blocks are open in their own routine alone.
-        s.choose(1).add(Script.TRY);
+        s.choose(1).add(TRY);
         checks.due("count(1) of routine 1", s.x.count(1), 1);
         s.choose(2);
         checks.due("count(1) of routine 2", s.x.count(1), 0);
         checks.due("END in routine 2", s.x.step(0, 0, 0, 0), -2);
-        s.choose(1).add(Script.END);
+        s.choose(1).add(END);
     }
 
     private static void clears(Checks checks) {
         Script s = new Script(checks);
         checks.due("clear() of no steps", s.x.clear(), 0);
-        s.choose(1).add(Script.SET, 1, 8);
-        s.choose(0).add(Script.SET, 0, 8).add(Script.MAKE, 0, 0).add(Script.NOTE, 0).add(Script.THROW, 5).runs(9);
+        s.choose(1).add(SET, 1, 8);
+        s.choose(0).add(SET, 0, 8).add(MAKE, 0, 0).add(NOTE, 0).add(THROW, 5).runs(9);
         s.clear();
         checks.due("count(0) behind clear", s.x.count(0), 0);
         checks.due("count(1) behind clear", s.x.count(1), 0);
@@ -45,7 +45,7 @@ public final class ChooseAndClearTest {
         s.choose(1).choose(0);
 
         // Open blocks are gone, with their parts.
-        s.add(Script.LOOP, 2).add(Script.TRY).add(Script.CATCH, 1).clear();
+        s.add(LOOP, 2).add(TRY).add(CATCH, 1).clear();
         checks.due("count(1)", s.x.count(1), 0);
         checks.due("END", s.x.step(0, 0, 0, 0), -2);
         checks.due("LEAVE", s.x.step(5, 0, 0, 0), -2);
@@ -53,9 +53,9 @@ public final class ChooseAndClearTest {
         s.runs(0).counts(0, 0, 0).noFault();
 
         for (int i = 0; i < 40; i++) {
-            s.add(Script.SET, 0, i);
+            s.add(SET, 0, i);
         }
         s.clear();
-        s.add(Script.NOTE, 0).runs(0).logs(1);
+        s.add(NOTE, 0).runs(0).logs(1);
     }
 }

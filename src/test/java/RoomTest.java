@@ -1,7 +1,7 @@
 import java.lang.management.ManagementFactory;
 
 /** The room of one run of calls: the dearest calls that 512 allow make few objects. */
-public final class RoomTest {
+public final class RoomTest implements Steps {
     // A tenth of what 600,000 objects of some ten fields would take.
     private static final long MOST_BYTES = 6_000_000;
 
@@ -20,16 +20,16 @@ public final class RoomTest {
     private static void dearestFaults(Checks checks) {
         long before = made();
         GaugeBench x = new GaugeBench();
-        x.step(Script.LOOP, 6, 0, 0);
-        x.step(Script.LOOP, 6, 0, 0);
+        x.step(LOOP, 6, 0, 0);
+        x.step(LOOP, 6, 0, 0);
         for (int i = 0; i < 8; i++) {
-            x.step(Script.TRY, 0, 0, 0);
-            x.step(Script.THROW, i, 0, 0);
-            x.step(Script.CATCH, 1, 0, 0);
-            x.step(Script.END, 0, 0, 0);
+            x.step(TRY, 0, 0, 0);
+            x.step(THROW, i, 0, 0);
+            x.step(CATCH, 1, 0, 0);
+            x.step(END, 0, 0, 0);
         }
-        x.step(Script.END, 0, 0, 0);
-        x.step(Script.END, 0, 0, 0);
+        x.step(END, 0, 0, 0);
+        x.step(END, 0, 0, 0);
         for (int calls = 36; calls < 512; calls++) {
             x.run();
         }
@@ -42,12 +42,12 @@ public final class RoomTest {
     private static void dearestRows(Checks checks) {
         long before = made();
         GaugeBench x = new GaugeBench();
-        x.step(Script.SET, 0, 128, 0);
-        x.step(Script.LOOP, 6, 0, 0);
+        x.step(SET, 0, 128, 0);
+        x.step(LOOP, 6, 0, 0);
         for (int i = 0; i < 36; i++) {
-            x.step(i % 2 == 0 ? Script.MAKE : Script.FIT, 16 + i / 2 % 2, i % 2, 0);
+            x.step(i % 2 == 0 ? MAKE : FIT, 16 + i / 2 % 2, i % 2, 0);
         }
-        x.step(Script.END, 0, 0, 0);
+        x.step(END, 0, 0, 0);
         for (int calls = 39; calls < 512; calls++) {
             x.run();
         }

@@ -1,5 +1,5 @@
 /** Promises 7, 8 and 9: size, value, isFitted, and what rows of each kind hold. */
-public final class RowTest {
+public final class RowTest implements Steps {
     private static final Checks checks = new Checks("promises 7, 8 and 9");
     private static final int[] NONE = {-1, 18, 19, Integer.MIN_VALUE, Integer.MAX_VALUE};
 
@@ -16,11 +16,11 @@ public final class RowTest {
         for (int w = 0; w < 18; w++) {
             Script s = new Script(checks);
             for (int size = 0; size <= 16; size++) {
-                s.add(Script.SET, 0, 8 * size).add(Script.MAKE, w, 0).runs(0).clear();
+                s.add(SET, 0, 8 * size).add(MAKE, w, 0).runs(0).clear();
                 checks.due("size(" + w + ")", s.x.size(w), size);
                 checks.due("size of the row beside it", s.x.size(w ^ 1), -1);
             }
-            s.add(Script.DROP, w).runs(0);
+            s.add(DROP, w).runs(0);
             checks.due("size(" + w + ") behind DROP", s.x.size(w), -1);
         }
         GaugeBench x = new GaugeBench();
@@ -31,12 +31,12 @@ public final class RowTest {
 
     /** A row of which every place holds 1. */
     private static Script ones(int w, int size) {
-        Script s = new Script(checks).add(Script.SET, 0, 8 * size).add(Script.MAKE, w, 0).add(Script.SET, 1, 8).add(Script.SET, 0, 0);
+        Script s = new Script(checks).add(SET, 0, 8 * size).add(MAKE, w, 0).add(SET, 1, 8).add(SET, 0, 0);
         for (int i = 0; i < size; i++) {
             if (w >= 16) {
-                s.add(Script.FIT, w, 0);
+                s.add(FIT, w, 0);
             }
-            s.add(Script.PUT, w, 0, 1).add(Script.FINE, 0, 0, 1);
+            s.add(PUT, w, 0, 1).add(FINE, 0, 0, 1);
         }
         return s.runs(0).clear();
     }
@@ -54,7 +54,7 @@ public final class RowTest {
                 checks.due("value(" + none + ", 0)", s.x.value(none, 0), 0.0);
                 checks.due("isFitted(" + none + ", 0)", s.x.isFitted(none, 0), false);
             }
-            s.add(Script.DROP, w).runs(0);
+            s.add(DROP, w).runs(0);
             checks.due("value(" + w + ", 0) behind DROP", s.x.value(w, 0), 0.0);
             checks.due("isFitted(" + w + ", 0) behind DROP", s.x.isFitted(w, 0), false);
         }
@@ -79,7 +79,7 @@ public final class RowTest {
             for (int w = 0; w < 18; w++) {
                 Script s = ones(w, 2);
                 s.load(0, held[0]);
-                s.add(Script.SET, 1, 8).add(Script.PUT, w, 1, 0).add(Script.GET, w, 1, 2).runs(0);
+                s.add(SET, 1, 8).add(PUT, w, 1, 0).add(GET, w, 1, 2).runs(0);
                 String put = held[0] + " put into row " + w;
                 checks.due("value of " + put, s.x.value(w, 1), held[1 + w / 2]);
                 checks.due("dial(2) of " + put, s.x.dial(2), held[1 + w / 2]);
@@ -91,11 +91,11 @@ public final class RowTest {
     private static void newRows() {
         // A row that is made anew holds 0 everywhere, or NONE, also where it was longer before.
         for (int w = 0; w < 18; w++) {
-            Script s = ones(w, 8).add(Script.SET, 0, 16).add(Script.MAKE, w, 0).runs(0).clear();
+            Script s = ones(w, 8).add(SET, 0, 16).add(MAKE, w, 0).runs(0).clear();
             placesAreNew(s, w, 2);
-            s.add(Script.SET, 0, 64).add(Script.MAKE, w, 0).runs(0).clear();
+            s.add(SET, 0, 64).add(MAKE, w, 0).runs(0).clear();
             placesAreNew(s, w, 8);
-            s = ones(w, 8).add(Script.DROP, w).add(Script.SET, 0, 128).add(Script.MAKE, w, 0).runs(0).clear();
+            s = ones(w, 8).add(DROP, w).add(SET, 0, 128).add(MAKE, w, 0).runs(0).clear();
             placesAreNew(s, w, 16);
         }
     }
@@ -106,20 +106,20 @@ public final class RowTest {
             checks.due("value(" + w + ", " + i + ")", s.x.value(w, i), 0.0);
             checks.due("isFitted(" + w + ", " + i + ")", s.x.isFitted(w, i), false);
         }
-        s.add(Script.SET, 0, 0).add(Script.GET, w, 0, 1).runs(w < 16 ? 0 : 3).clear();
+        s.add(SET, 0, 0).add(GET, w, 0, 1).runs(w < 16 ? 0 : 3).clear();
     }
 
     private static void probes() {
         for (int w = 16; w < 18; w++) {
-            Script s = new Script(checks).add(Script.SET, 0, 24).add(Script.MAKE, w, 0).add(Script.SET, 0, 8).add(Script.FIT, w, 0).runs(0).clear();
+            Script s = new Script(checks).add(SET, 0, 24).add(MAKE, w, 0).add(SET, 0, 8).add(FIT, w, 0).runs(0).clear();
             for (int i = 0; i < 3; i++) {
                 checks.due("isFitted(" + w + ", " + i + ")", s.x.isFitted(w, i), i == 1);
                 checks.due("value(" + w + ", " + i + ")", s.x.value(w, i), 0.0);
             }
             // Another FIT is a new PROBE, with 0.
-            s.add(Script.SET, 1, -20).add(Script.PUT, w, 0, 1).runs(0).clear();
+            s.add(SET, 1, -20).add(PUT, w, 0, 1).runs(0).clear();
             checks.due("value(" + w + ", 1)", s.x.value(w, 1), -2.5);
-            s.add(Script.FIT, w, 0).runs(0);
+            s.add(FIT, w, 0).runs(0);
             checks.due("value(" + w + ", 1) behind FIT", s.x.value(w, 1), 0.0);
             checks.due("isFitted(" + w + ", 1) behind FIT", s.x.isFitted(w, 1), true);
             checks.due("isFitted of the row beside it", s.x.isFitted(33 - w, 1), false);

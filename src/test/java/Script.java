@@ -1,31 +1,5 @@
 /** An object of the class, its steps written by their names; each is checked to be taken. */
-final class Script {
-    static final int END = 0;
-    static final int TRY = 1;
-    static final int CATCH = 2;
-    static final int FINALLY = 3;
-    static final int LOOP = 4;
-    static final int LEAVE = 5;
-    static final int RETURN = 6;
-    static final int THROW = 7;
-    static final int AGAIN = 8;
-    static final int WRAP = 9;
-    static final int TELL = 10;
-    static final int IF = 11;
-    static final int CALL = 12;
-    static final int MAKE = 13;
-    static final int DROP = 14;
-    static final int COUNT = 15;
-    static final int GET = 16;
-    static final int PUT = 17;
-    static final int FIT = 18;
-    static final int SET = 19;
-    static final int FINE = 20;
-    static final int ROUGH = 21;
-    static final int WHOLE = 22;
-    static final int WIDE = 23;
-    static final int NOTE = 24;
-
+final class Script implements Steps {
     final GaugeBench x = new GaugeBench();
     private final Checks checks;
     private final int[] written = new int[4];
@@ -42,6 +16,21 @@ final class Script {
         int c = given.length > 2 ? given[2] : -1;
         written[hand]++;
         checks.due("step(" + what + ", " + a + ", " + b + ", " + c + ")", x.step(what, a, b, c), written[hand]);
+        return this;
+    }
+
+    /** Steps that count n and do nothing else; they throw nothing, as long as 200 are enough. */
+    Script spend(int n) {
+        int left = n;
+        for (; left >= 49; left -= 49) {
+            add(LOOP, 6).add(LOOP, 6).add(END).add(END);
+        }
+        for (; left >= 7; left -= 7) {
+            add(LOOP, 6).add(END);
+        }
+        for (; left > 0; left--) {
+            add(IF, 0, 2, 0).add(END);
+        }
         return this;
     }
 

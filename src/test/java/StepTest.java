@@ -1,5 +1,5 @@
 /** Promise 3: which steps are taken, and in which order what is wrong with them is told. */
-public final class StepTest {
+public final class StepTest implements Steps {
     private static final int[] EDGES = {Integer.MIN_VALUE, -2, -1, 0, 1, 2, 3, 4, 5, 6, 7, 8, 10, 11, 12, 13, 14, 15, 16,
         17, 18, 98, 99, 100, Integer.MAX_VALUE};
     private static final Checks checks = new Checks("promise 3");
@@ -14,6 +14,10 @@ public final class StepTest {
         usesOfCaught();
         depth();
         full();
+        lastOfForty();
+        notNamed();
+        nothingIsDone();
+        openParts();
         checks.end();
     }
 
@@ -26,6 +30,7 @@ public final class StepTest {
         {16, 17, 7, -1}, {0, 7, -1, -1}, {0, 13, 7, 7}, {0, 13, 7, 7}, {0, 7, 7, 7}, {0, 7, 7, 7}, {0, 7, -1, -1}};
 
     private static void arguments() {
+        checks.sentence("-1: what is not 0 .. 24, or a number, kind, dial, row, routine among its arguments is none that is told; else -2:");
         for (int what = 0; what <= 24; what++) {
             int[] told = TOLD[what];
             for (int edge : EDGES) {
@@ -40,26 +45,27 @@ public final class StepTest {
     /** In a CATCH part within a LOOP, where every step may stand. */
     private static void takes(int what, int a, int b, int c, boolean due) {
         GaugeBench x = new GaugeBench();
-        x.step(Script.LOOP, 1, 0, 0);
-        x.step(Script.TRY, 0, 0, 0);
-        x.step(Script.CATCH, 1, 0, 0);
+        x.step(LOOP, 1, 0, 0);
+        x.step(TRY, 0, 0, 0);
+        x.step(CATCH, 1, 0, 0);
         String call = "step(" + what + ", " + a + ", " + b + ", " + c + ")";
         checks.due(call, x.step(what, a, b, c), due ? 4 : -1);
         checks.due("count(0) behind " + call, x.count(0), due ? 4 : 3);
     }
 
     private static void unknownSteps() {
+        checks.sentence("-1: what is not 0 .. 24,");
         GaugeBench x = new GaugeBench();
         int[] none = {-1, 25, 26, 100, Integer.MIN_VALUE, Integer.MAX_VALUE};
         for (int what : none) {
             checks.due("step(" + what + ", 0, 0, 0)", x.step(what, 0, 0, 0), -1);
         }
         // A wrong argument is told before a wrong stand.
-        checks.due("CATCH 12 without a TRY", x.step(Script.CATCH, 12, 0, 0), -1);
-        checks.due("CATCH 0 without a TRY", x.step(Script.CATCH, 0, 0, 0), -1);
-        checks.due("CATCH 1 without a TRY", x.step(Script.CATCH, 1, 0, 0), -2);
-        checks.due("WRAP 100 outside", x.step(Script.WRAP, 100, 0, 0), -1);
-        checks.due("WRAP 99 outside", x.step(Script.WRAP, 99, 0, 0), -2);
+        checks.due("CATCH 12 without a TRY", x.step(CATCH, 12, 0, 0), -1);
+        checks.due("CATCH 0 without a TRY", x.step(CATCH, 0, 0, 0), -1);
+        checks.due("CATCH 1 without a TRY", x.step(CATCH, 1, 0, 0), -2);
+        checks.due("WRAP 100 outside", x.step(WRAP, 100, 0, 0), -1);
+        checks.due("WRAP 99 outside", x.step(WRAP, 99, 0, 0), -2);
         checks.due("count(0)", x.count(0), 0);
     }
 
@@ -72,134 +78,254 @@ public final class StepTest {
     }
 
     private static void ends() {
+        checks.sentence("else -2: END where no block is open;");
         Script s = new Script(checks);
-        refuses(s, -2, Script.END, 0);
-        s.add(Script.IF, 0, 0, 0).add(Script.END);
-        refuses(s, -2, Script.END, 0);
-        s.add(Script.LOOP, 0).add(Script.TRY).add(Script.END).add(Script.END);
-        refuses(s, -2, Script.END, 0);
+        refuses(s, -2, END, 0);
+        s.add(IF, 0, 0, 0).add(END);
+        refuses(s, -2, END, 0);
+        s.add(LOOP, 0).add(TRY).add(END).add(END);
+        refuses(s, -2, END, 0);
     }
 
     private static void parts() {
+        checks.sentence("CATCH, FINALLY where the block that was opened last (and is open) is no TRY, or has its FINALLY, CATCH where it has three;");
         Script s = new Script(checks);
-        refuses(s, -2, Script.FINALLY, 0);
-        s.add(Script.LOOP, 1);
-        refuses(s, -2, Script.CATCH, 1);
-        refuses(s, -2, Script.FINALLY, 0);
-        s.add(Script.TRY).add(Script.IF, 0, 0, 0);
-        refuses(s, -2, Script.CATCH, 1);
-        refuses(s, -2, Script.FINALLY, 0);
-        s.add(Script.END).add(Script.CATCH, 1).add(Script.CATCH, 1).add(Script.CATCH, 11);
-        refuses(s, -2, Script.CATCH, 1);
+        refuses(s, -2, FINALLY, 0);
+        s.add(LOOP, 1);
+        refuses(s, -2, CATCH, 1);
+        refuses(s, -2, FINALLY, 0);
+        s.add(TRY).add(IF, 0, 0, 0);
+        refuses(s, -2, CATCH, 1);
+        refuses(s, -2, FINALLY, 0);
+        s.add(END).add(CATCH, 1).add(CATCH, 1).add(CATCH, 11);
+        refuses(s, -2, CATCH, 1);
         // The three are the outer TRY's own: an inner one has room for three of its own.
-        s.add(Script.TRY).add(Script.CATCH, 1).add(Script.CATCH, 2).add(Script.CATCH, 3);
-        refuses(s, -2, Script.CATCH, 1);
-        s.add(Script.FINALLY);
-        refuses(s, -2, Script.FINALLY, 0);
-        refuses(s, -2, Script.CATCH, 1);
-        s.add(Script.END);
-        refuses(s, -2, Script.CATCH, 1);
-        s.add(Script.FINALLY).add(Script.END);
-        refuses(s, -2, Script.FINALLY, 0);
-        s.add(Script.TRY).add(Script.FINALLY);
-        refuses(s, -2, Script.CATCH, 1);
-        s.add(Script.END).add(Script.END);
-        refuses(s, -2, Script.CATCH, 1);
+        s.add(TRY).add(CATCH, 1).add(CATCH, 2).add(CATCH, 3);
+        refuses(s, -2, CATCH, 1);
+        s.add(FINALLY);
+        refuses(s, -2, FINALLY, 0);
+        refuses(s, -2, CATCH, 1);
+        s.add(END);
+        refuses(s, -2, CATCH, 1);
+        s.add(FINALLY).add(END);
+        refuses(s, -2, FINALLY, 0);
+        s.add(TRY).add(FINALLY);
+        refuses(s, -2, CATCH, 1);
+        s.add(END).add(END);
+        refuses(s, -2, CATCH, 1);
         checks.due("count(1)", s.x.count(1), 0);
     }
 
     private static void leaves() {
+        checks.sentence("LEAVE where no LOOP is open, or a FINALLY part is open within the innermost one that is;");
         Script s = new Script(checks);
-        refuses(s, -2, Script.LEAVE, 0);
-        s.add(Script.IF, 0, 1, 0);
-        refuses(s, -2, Script.LEAVE, 0);
-        s.add(Script.LOOP, 1).add(Script.LEAVE).add(Script.IF, 0, 1, 0).add(Script.LEAVE).add(Script.TRY).add(Script.LEAVE);
-        s.add(Script.CATCH, 1).add(Script.LEAVE).add(Script.FINALLY);
-        refuses(s, -2, Script.LEAVE, 0);
-        s.add(Script.IF, 0, 1, 0);
-        refuses(s, -2, Script.LEAVE, 0);
+        refuses(s, -2, LEAVE, 0);
+        s.add(IF, 0, 1, 0);
+        refuses(s, -2, LEAVE, 0);
+        s.add(LOOP, 1).add(LEAVE).add(IF, 0, 1, 0).add(LEAVE).add(TRY).add(LEAVE);
+        s.add(CATCH, 1).add(LEAVE).add(FINALLY);
+        refuses(s, -2, LEAVE, 0);
+        s.add(IF, 0, 1, 0);
+        refuses(s, -2, LEAVE, 0);
         // A LOOP within the FINALLY part may be left; behind its END it is as before.
-        s.add(Script.LOOP, 1).add(Script.LEAVE).add(Script.END);
-        refuses(s, -2, Script.LEAVE, 0);
-        s.add(Script.END);
-        refuses(s, -2, Script.LEAVE, 0);
-        s.add(Script.END).add(Script.LEAVE).add(Script.END).add(Script.END);
-        refuses(s, -2, Script.LEAVE, 0);
+        s.add(LOOP, 1).add(LEAVE).add(END);
+        refuses(s, -2, LEAVE, 0);
+        s.add(END);
+        refuses(s, -2, LEAVE, 0);
+        s.add(END).add(LEAVE).add(END).add(END);
+        refuses(s, -2, LEAVE, 0);
     }
 
     private static void returns() {
+        checks.sentence("RETURN where a FINALLY part is open;");
         Script s = new Script(checks);
-        s.add(Script.RETURN).add(Script.TRY).add(Script.RETURN).add(Script.CATCH, 1).add(Script.RETURN).add(Script.FINALLY);
-        refuses(s, -2, Script.RETURN, 0);
-        s.add(Script.LOOP, 1);
-        refuses(s, -2, Script.RETURN, 0);
-        s.add(Script.TRY);
-        refuses(s, -2, Script.RETURN, 0);
-        s.add(Script.CATCH, 1);
-        refuses(s, -2, Script.RETURN, 0);
-        s.add(Script.END).add(Script.END);
-        refuses(s, -2, Script.RETURN, 0);
-        s.add(Script.END).add(Script.RETURN);
+        s.add(RETURN).add(TRY).add(RETURN).add(CATCH, 1).add(RETURN).add(FINALLY);
+        refuses(s, -2, RETURN, 0);
+        s.add(LOOP, 1);
+        refuses(s, -2, RETURN, 0);
+        s.add(TRY);
+        refuses(s, -2, RETURN, 0);
+        s.add(CATCH, 1);
+        refuses(s, -2, RETURN, 0);
+        s.add(END).add(END);
+        refuses(s, -2, RETURN, 0);
+        s.add(END).add(RETURN);
     }
 
     private static void usesOfCaught() {
-        int[] uses = {Script.AGAIN, Script.WRAP, Script.TELL};
+        checks.sentence("AGAIN, WRAP, TELL where no CATCH part is open;");
+        int[] uses = {AGAIN, WRAP, TELL};
         for (int use : uses) {
             Script s = new Script(checks);
             refuses(s, -2, use, 0);
-            s.add(Script.TRY);
+            s.add(TRY);
             refuses(s, -2, use, 0);
-            s.add(Script.CATCH, 1).add(use, 0).add(Script.LOOP, 1).add(use, 0).add(Script.TRY).add(use, 0);
+            s.add(CATCH, 1).add(use, 0).add(LOOP, 1).add(use, 0).add(TRY).add(use, 0);
             // The outer CATCH part is open still in the inner FINALLY part.
-            s.add(Script.FINALLY).add(use, 0).add(Script.END).add(Script.END).add(Script.FINALLY);
+            s.add(FINALLY).add(use, 0).add(END).add(END).add(FINALLY);
             refuses(s, -2, use, 0);
-            s.add(Script.TRY).add(Script.CATCH, 2).add(use, 0).add(Script.END);
+            s.add(TRY).add(CATCH, 2).add(use, 0).add(END);
             refuses(s, -2, use, 0);
-            s.add(Script.END);
+            s.add(END);
             refuses(s, -2, use, 0);
         }
     }
 
     private static void depth() {
-        int[][] blocks = {{Script.TRY, 0, 0, 0}, {Script.LOOP, 6, 0, 0}, {Script.IF, 7, 3, 7}};
+        checks.sentence("a block where 6 are open; else -3: there are 40.");
+        int[][] blocks = {{TRY, 0, 0, 0}, {LOOP, 6, 0, 0}, {IF, 7, 3, 7}};
         for (int[] block : blocks) {
             Script s = new Script(checks);
             for (int i = 1; i <= 6; i++) {
                 s.add(block[0], block[1], block[2], block[3]);
                 checks.due("count(1)", s.x.count(1), i);
             }
-            refuses(s, -2, Script.TRY, 0);
-            refuses(s, -2, Script.LOOP, 0);
-            refuses(s, -2, Script.IF, 0);
-            s.add(Script.END).add(Script.TRY).add(Script.END);
+            refuses(s, -2, TRY, 0);
+            refuses(s, -2, LOOP, 0);
+            refuses(s, -2, IF, 0);
+            s.add(END).add(TRY).add(END);
             checks.due("count(1)", s.x.count(1), 5);
         }
     }
 
     private static void full() {
+        checks.sentence("a block where 6 are open; else -3: there are 40.");
         Script s = new Script(checks);
-        s.add(Script.TRY);
+        s.add(TRY);
         for (int i = 0; i < 39; i++) {
-            s.add(Script.NOTE, 0);
+            s.add(NOTE, 0);
         }
-        refuses(s, -3, Script.NOTE, 0);
-        refuses(s, -3, Script.END, 0);
-        refuses(s, -3, Script.CATCH, 1);
-        refuses(s, -3, Script.TRY, 0);
-        refuses(s, -2, Script.LEAVE, 0);
-        refuses(s, -2, Script.TELL, 0);
-        refuses(s, -1, Script.CATCH, 0);
-        refuses(s, -1, Script.NOTE, 8);
+        refuses(s, -3, NOTE, 0);
+        refuses(s, -3, END, 0);
+        refuses(s, -3, CATCH, 1);
+        refuses(s, -3, TRY, 0);
+        refuses(s, -2, LEAVE, 0);
+        refuses(s, -2, TELL, 0);
+        refuses(s, -1, CATCH, 0);
+        refuses(s, -1, NOTE, 8);
         refuses(s, -1, 25, 0);
         checks.due("run() of an open block", s.x.run(), -1);
         s.clear();
         for (int i = 0; i < 40; i++) {
-            s.add(Script.NOTE, 0);
+            s.add(NOTE, 0);
         }
-        refuses(s, -2, Script.END, 0);
-        refuses(s, -3, Script.RETURN, 0);
+        refuses(s, -2, END, 0);
+        refuses(s, -3, RETURN, 0);
         s.runs(0).counts(40, 0, 0);
         // Another routine has its own 40.
-        s.choose(2).add(Script.NOTE, 0);
+        s.choose(2).add(NOTE, 0);
+    }
+
+    /** In a CATCH part within a LOOP, where every step may stand: as the 40th it is taken, as the next one not. */
+    private static void lastOfForty() {
+        checks.sentence("One more step behind the others of the routine at hand: how many there are.");
+        for (int what = 0; what <= 24; what++) {
+            for (int before = 38; before <= 40; before++) {
+                Script s = new Script(checks).add(LOOP, 1).add(TRY).add(CATCH, 1);
+                for (int i = 3; i < before; i++) {
+                    s.add(NOTE, 0);
+                }
+                int a = TOLD[what][0];
+                checks.due("step(" + what + ", ..) behind " + before, s.x.step(what, a, 0, 0), before < 40 ? before + 1 : -3);
+                checks.due("count(0) behind it", s.x.count(0), Math.min(before + 1, 40));
+                // A wrong argument is told first, full or not.
+                int[] told = TOLD[what];
+                if (told[1] >= 0) {
+                    checks.due("step(" + what + ", " + (told[1] + 1) + ", ..)", s.x.step(what, told[1] + 1, 0, 0), -1);
+                }
+            }
+        }
+        // Where it may not stand, that is told before there being 40.
+        Script s = new Script(checks);
+        for (int i = 0; i < 6; i++) {
+            s.add(IF, 0, 0, 0);
+        }
+        for (int i = 6; i < 40; i++) {
+            s.add(NOTE, 0);
+        }
+        int[] nowhere = {TRY, LOOP, IF, CATCH, FINALLY, LEAVE, AGAIN, WRAP, TELL};
+        for (int what : nowhere) {
+            refuses(s, -2, what, 1);
+        }
+        refuses(s, -3, END, 0);
+        refuses(s, -3, RETURN, 0);
+    }
+
+    private static void notNamed() {
+        checks.sentence("those that are not named are not looked at.");
+        int[] any = {Integer.MIN_VALUE, -1, 40, 100, Integer.MAX_VALUE};
+        for (int one : any) {
+            for (int what = 0; what <= 24; what++) {
+                int[] told = TOLD[what];
+                takes(what, told[1] < 0 ? one : told[1], told[2] < 0 ? one : told[2], told[3] < 0 ? one : told[3], true);
+            }
+            // And they change nothing of what the step does.
+            Script s = new Script(checks).add(SET, 0, 16, one).add(MAKE, 9, 0, one).add(COUNT, 9, 1, one).add(NOTE, 1, one, one)
+                .add(LOOP, 2, one, one).add(NOTE, 0, one, one).add(END, one, one, one).add(DROP, 9, one, one)
+                .add(TRY, one, one, one).add(THROW, 3, one, one).add(CATCH, 9, one, one).add(WRAP, 4, one, one)
+                .add(FINALLY, one, one, one).add(NOTE, 0, one, one).add(END, one, one, one).runs(11);
+            s.logs(2, 2, 2, 2).faults(11, 11, 18, 4, 1, 9);
+            checks.due("size(9)", s.x.size(9), -1);
+        }
+    }
+
+    private static void nothingIsDone() {
+        checks.sentence("(Nothing is done then.");
+        // Refused parts are none: three CATCH parts and a FINALLY part are taken still.
+        Script s = new Script(checks).add(TRY);
+        for (int i = 0; i < 4; i++) {
+            refuses(s, -1, CATCH, 0);
+            refuses(s, -1, CATCH, 12);
+            refuses(s, -2, TELL, 0);
+            refuses(s, -2, LEAVE, 0);
+        }
+        s.add(THROW, 5);
+        s.add(CATCH, 3).add(CATCH, 9).add(CATCH, 1);
+        refuses(s, -2, CATCH, 9);
+        // The refused CATCH has not ended the third part.
+        s.add(TELL).add(FINALLY);
+        refuses(s, -2, CATCH, 9);
+        refuses(s, -2, FINALLY, 0);
+        refuses(s, -2, RETURN, 0);
+        s.add(NOTE, 0).add(END);
+        refuses(s, -2, END, 0);
+        s.runs(0).logs(0).counts(3, 1, 1);
+        // Refused blocks are not open: six ENDs close all that is.
+        s = new Script(checks);
+        for (int i = 0; i < 6; i++) {
+            refuses(s, -1, LOOP, 7);
+            refuses(s, -1, LOOP, -1);
+            s.add(LOOP, 1);
+        }
+        refuses(s, -2, LOOP, 1);
+        for (int i = 0; i < 6; i++) {
+            s.add(END);
+        }
+        refuses(s, -2, END, 0);
+        s.runs(0).counts(12, 0, 0);
+    }
+
+    private static void openParts() {
+        checks.sentence("A CATCH or FINALLY part is open from its CATCH, FINALLY to the next CATCH, FINALLY or the END of its TRY.)");
+        Script s = new Script(checks).add(LOOP, 1).add(TRY).add(LEAVE).add(RETURN);
+        refuses(s, -2, TELL, 0);
+        s.add(CATCH, 1).add(TELL).add(CATCH, 1).add(TELL).add(RETURN).add(LEAVE).add(FINALLY);
+        refuses(s, -2, TELL, 0);
+        refuses(s, -2, RETURN, 0);
+        refuses(s, -2, LEAVE, 0);
+        s.add(END).add(RETURN).add(LEAVE);
+        refuses(s, -2, TELL, 0);
+        // The END of a block within the part does not close the part.
+        s = new Script(checks).add(TRY).add(CATCH, 1).add(IF, 0, 1, 0).add(END).add(TELL).add(FINALLY)
+            .add(TRY).add(END);
+        refuses(s, -2, RETURN, 0);
+        s.add(END).add(RETURN);
+        // An inner FINALLY part that is closed leaves the outer LOOP free to be left, the outer one does not.
+        s = new Script(checks).add(TRY).add(FINALLY).add(LOOP, 1).add(TRY).add(FINALLY);
+        refuses(s, -2, LEAVE, 0);
+        s.add(END).add(LEAVE);
+        refuses(s, -2, RETURN, 0);
+        s.add(END);
+        refuses(s, -2, LEAVE, 0);
     }
 }

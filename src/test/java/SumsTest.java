@@ -1,7 +1,7 @@
 import java.util.Random;
 
 /** Promises 5 and 6: what FINE, ROUGH, WHOLE, WIDE and IF make of doubles at the edges. */
-public final class SumsTest {
+public final class SumsTest implements Steps {
     private static final double[] EDGES = {
         0.0, -0.0, 0.5, -0.5, 1, -1, 1.5, -1.5, 2.5, -2.5, 3, -7, 0.1, -0.3,
         0.49999999999999994, -0.49999999999999994, 0.5000000000000001, -0.9999999999999999,
@@ -42,16 +42,16 @@ public final class SumsTest {
         Script script = new Script(checks);
         script.load(0, x);
         script.load(1, y);
-        script.add(Script.SET, 2, 8).add(Script.MAKE, 14, 2);
-        script.add(Script.SET, 2, 0).add(Script.PUT, 14, 2, 0).runs(0).clear();
-        for (int what = Script.FINE; what <= Script.WIDE; what++) {
-            for (int sum = 0; sum < (what <= Script.ROUGH ? 14 : 8); sum++) {
+        script.add(SET, 2, 8).add(MAKE, 14, 2);
+        script.add(SET, 2, 0).add(PUT, 14, 2, 0).runs(0).clear();
+        for (int what = FINE; what <= WIDE; what++) {
+            for (int sum = 0; sum < (what <= ROUGH ? 14 : 8); sum++) {
                 oneSum(script, what, sum, x, y);
             }
         }
         for (int how = 0; how < 4; how++) {
             boolean so = how == 0 ? x < y : how == 1 ? x == y : how == 2 ? x != y : x >= y;
-            script.add(Script.IF, 0, how, 1).add(Script.THROW, 1).add(Script.END).runs(so ? 9 : 0).clear();
+            script.add(IF, 0, how, 1).add(THROW, 1).add(END).runs(so ? 9 : 0).clear();
         }
     }
 
@@ -69,8 +69,8 @@ public final class SumsTest {
             fault = 7;
         }
         String call = "step(" + what + ", " + sum + ", x, y) of " + x + ", " + y;
-        checks.due(call, script.x.step(Script.SET, 2, 0, 0), 1);
-        script.x.step(Script.GET, 14, 2, 2);
+        checks.due(call, script.x.step(SET, 2, 0, 0), 1);
+        script.x.step(GET, 14, 2, 2);
         script.x.step(what, sum, 2, 1);
         checks.due(call + ": run()", script.x.run(), fault);
         checks.due(call + ": dial(2)", script.x.dial(2), due);
@@ -79,9 +79,9 @@ public final class SumsTest {
 
     private static double sumOf(int what, int sum, double x, double y) {
         switch (what) {
-            case Script.FINE: return Model.fine(0, sum, x, y);
-            case Script.ROUGH: return Model.rough(0, sum, (float) x, (float) y);
-            case Script.WHOLE: return Model.whole(0, sum, (int) x, (int) y);
+            case FINE: return Model.fine(0, sum, x, y);
+            case ROUGH: return Model.rough(0, sum, (float) x, (float) y);
+            case WHOLE: return Model.whole(0, sum, (int) x, (int) y);
             default: return Model.wide(0, sum, (long) x, (long) y);
         }
     }
