@@ -52,6 +52,7 @@ public final class FaceEdgesTest implements Steps {
     }
 
     private static void objectsOfTheirOwn() {
+        checks.sentence("The DIALS 0 .. 7 hold doubles, 0 at first;");
         Script one = script().add(SET, 0, -8).add(MAKE, 16, 1).add(NOTE, 0).add(TRY).add(FINALLY).add(THROW, 3).add(END).runs(9);
         Script other = script();
         checks.due("size(16) of another object", other.x.size(16), -1);
@@ -81,7 +82,7 @@ public final class FaceEdgesTest implements Steps {
     }
 
     private static void stepsOfARoutine() {
-        checks.sentence("have at most 40 STEPS each, numbered from 0; none at first");
+        checks.sentence("ROUTINES 0 .. 3, one of them AT HAND (0 at first), have at most 40 STEPS each, numbered from 0; none at first");
         for (int r = 0; r <= 3; r++) {
             Script s = script().choose(r);
             for (int i = 0; i < 39; i++) {
@@ -298,7 +299,7 @@ public final class FaceEdgesTest implements Steps {
     }
 
     private static void counts() {
-        checks.sentence("what = 0 steps of the routine at hand; 1 blocks that are open in it;");
+        checks.sentence("How many: what = 0 steps of the routine at hand; 1 blocks that are open in it;");
         Script s = script().add(THROW, 1).runs(9);
         for (int none : new int[] {LEAST, -2, -1, 6, 7, MOST}) {
             checks.due("count(" + none + ")", s.x.count(none), -1);
@@ -343,7 +344,7 @@ public final class FaceEdgesTest implements Steps {
     }
 
     private static void faults() {
-        checks.sentence("what = 0 its kind, 1 its PLACE, 2 its WEIGHT, 3 its NUMBER (0 if it has none), 4 how many EARLIER ones it has; "
+        checks.sentence("Of the fault that was thrown out of the latest run: what = 0 its kind, 1 its PLACE, 2 its WEIGHT, 3 its NUMBER (0 if it has none), 4 how many EARLIER ones it has; "
             + "5 the PLACE of the last of these (its own, if it has none).");
         script().add(NOTE, 0).add(THROW, 99).runs(9).faults(9, 1, 100, 99, 0, 1);
         script().add(NOTE, 0).add(COUNT, 0, 0).runs(3).faults(3, 1, 11, 0, 0, 1);

@@ -47,7 +47,7 @@ public final class FaultEdgesTest implements Steps {
     private static final int[] THROWN = {3, 4, 5, 7, 8, 9, 10};
 
     private static void kinds() {
-        checks.sentence("1 FAULT; 2 ROW FAULT, below FAULT; 3 MISSING, 4 PLACE, 5 SIZE, each below ROW FAULT; 6 NUMBER FAULT, below FAULT; "
+        checks.sentence("each kind is UNDER itself and under those that it stands below: 1 FAULT; 2 ROW FAULT, below FAULT; 3 MISSING, 4 PLACE, 5 SIZE, each below ROW FAULT; 6 NUMBER FAULT, below FAULT; "
             + "7 ZERO, 8 RANGE, each below NUMBER FAULT; 9 OWN, below FAULT; 10 TIRED, below FAULT; 11 WRAPPED, below OWN.");
         int[] above = {0, 0, 1, 2, 2, 2, 1, 6, 6, 1, 1, 9};
         for (int kind : THROWN) {
@@ -182,7 +182,7 @@ public final class FaultEdgesTest implements Steps {
     }
 
     private static void greatestWeight() {
-        checks.sentence("WEIGHT (an int that wraps)");
+        checks.sentence("WEIGHT (an int that wraps): the plain weight of a fault is 1,");
         // The greatest that there can be: RANGE, 106, wrapped five times with 99; it stays far below the end of int.
         Script s = ready();
         for (int i = 0; i < 6; i++) {

@@ -24,6 +24,7 @@ public final class RowEdgesTest implements Steps {
         noProbe();
         fits();
         oneDialForTwo();
+        everyDial();
         checks.end();
     }
 
@@ -63,7 +64,8 @@ public final class RowEdgesTest implements Steps {
     }
 
     private static void firstHeld() {
-        checks.sentence("0 (false) at first; a place of PROBES holds a PROBE, which has a double, or NONE, as at first.");
+        checks.sentence("A place holds a number as a boolean, byte, char, short, int, long, float, double does, 0 (false) at first; "
+            + "a place of PROBES holds a PROBE, which has a double, or NONE, as at first.");
         for (int w = 0; w < 18; w++) {
             Script s = script().add(SET, 0, 128).add(MAKE, w, 0).runs(0);
             for (int i = 0; i < 16; i++) {
@@ -247,6 +249,7 @@ public final class RowEdgesTest implements Steps {
     }
 
     private static void makesAnew() {
+        checks.sentence("A row is MISSING, as at first, or has 0 to 16 PLACES, from 0.");
         for (int w = 0; w < 18; w++) {
             // Every place of 16 holds 1; then the row is made anew with 16, with 1, and with 16 again.
             Script s = made(w, 16);
@@ -297,7 +300,7 @@ public final class RowEdgesTest implements Steps {
     }
 
     private static void places() {
-        checks.sentence("PUT: dial c is put there: MISSING, if the row is, else PLACE, if it has no such place;");
+        checks.sentence("GET: dial c becomes what is got from the place that is the INT of dial b; PUT: dial c is put there: MISSING, if the row is, else PLACE, if it has no such place;");
         for (int w = 0; w < 18; w++) {
             for (int size : new int[] {0, 1, 16}) {
                 Script s = made(w, size);
@@ -384,6 +387,39 @@ public final class RowEdgesTest implements Steps {
             s.add(GET, w, 3, 3).runs(PLACE).clear();
             s.add(COUNT, w, 3).add(GET, w, 3, 3).runs(PLACE);
             checks.due("dial(3)", s.x.dial(3), 16.0);
+        }
+    }
+
+    /** Dial d is d, the row has 16 places: place b holds c, and dial c becomes what place b holds. */
+    private static void everyDial() {
+        for (int w : new int[] {9, 17}) {
+            for (int b = 0; b < 8; b++) {
+                for (int c = 0; c < 8; c++) {
+                    Script s = made(w, 16);
+                    for (int d = 0; d < 8; d++) {
+                        s.add(SET, d, 8 * d);
+                    }
+                    s.add(PUT, w, b, c).runs(0);
+                    for (int i = 0; i < 16; i++) {
+                        checks.due("value(" + w + ", " + i + ") behind PUT " + b + ", " + c, s.x.value(w, i), i == b ? (double) c : 0.0);
+                    }
+                    s.clear().add(SET, c, -16).add(SET, b, 8 * b).add(GET, w, b, c).runs(0);
+                    for (int d = 0; d < 8; d++) {
+                        double due = d == c ? c : d;
+                        checks.due("dial(" + d + ") behind GET " + b + ", " + c, s.x.dial(d), due);
+                    }
+                }
+                Script s = script().add(SET, b, 8 * b + 8).add(MAKE, w, b).runs(0);
+                checks.due("size(" + w + ") made by dial " + b, s.x.size(w), b + 1);
+                s.clear().add(SET, b, -8).add(COUNT, w, b).runs(0);
+                checks.due("dial(" + b + ") behind COUNT", s.x.dial(b), b + 1.0);
+                if (w == 17) {
+                    s.clear().add(SET, b, 8 * b).add(FIT, w, b).runs(0);
+                    for (int i = 0; i <= b; i++) {
+                        checks.due("isFitted(17, " + i + ")", s.x.isFitted(17, i), i == b);
+                    }
+                }
+            }
         }
     }
 }

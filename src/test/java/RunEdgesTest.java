@@ -127,7 +127,7 @@ public final class RunEdgesTest implements Steps {
     }
 
     private static void tiredRounds() {
-        checks.sentence("the round is counted (TIRED is thrown by the LOOP then)");
+        checks.sentence("LOOP a: a times over: the round is counted (TIRED is thrown by the LOOP then), the block is done.");
         for (int times = 0; times <= 6; times++) {
             for (int left = 0; left <= 8; left++) {
                 Script s = script().choose(1).spend(199 - left).choose(0).add(CALL, 1).add(LOOP, times).add(END);
@@ -220,7 +220,7 @@ public final class RunEdgesTest implements Steps {
     }
 
     private static void firstCatchThatFits() {
-        checks.sentence("the first of its CATCH parts by whose a it is UNDER is done (up to the next CATCH, FINALLY, END), if there is one; "
+        checks.sentence("If a fault is thrown out of it: the first of its CATCH parts by whose a it is UNDER is done (up to the next CATCH, FINALLY, END), if there is one; "
             + "that fault is CAUGHT there.");
         // MISSING: the CATCH parts by these kinds, and the number of the one that is done (0: none is).
         int[][] parts = {{3, 2, 1, 1}, {1, 2, 3, 1}, {9, 3, 2, 2}, {6, 9, 1, 3}, {6, 9, 10, 0}, {4, 5, 3, 3}, {4, 2, 3, 2}, {2, 2, 2, 1}};

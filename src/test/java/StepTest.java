@@ -29,15 +29,36 @@ public final class StepTest implements Steps {
         {0, 17, 7, -1}, {0, 17, -1, -1}, {0, 17, 7, -1}, {0, 17, 7, 7}, {0, 17, 7, 7},
         {16, 17, 7, -1}, {0, 7, -1, -1}, {0, 13, 7, 7}, {0, 13, 7, 7}, {0, 7, 7, 7}, {0, 7, 7, 7}, {0, 7, -1, -1}};
 
+    /** What the document says of each step, by its number. */
+    private static final String[] WORDS = {
+        "0 END: closes the block that was opened last.", "1 TRY: opens a block.",
+        "2 CATCH a (1 .. 11), 3 FINALLY: in a TRY that was opened last: its part up to there ends, the next one begins.",
+        "3 FINALLY: in a TRY that was opened last: its part up to there ends, the next one begins.", "4 LOOP a (0 .. 6): opens a block.",
+        "5 LEAVE.", "6 RETURN.", "7 THROW a (0 .. 99).", "8 AGAIN.", "9 WRAP a (0 .. 99).", "10 TELL.",
+        "11 IF dial a, b (0 below, 1 like, 2 not like, 3 not below) dial c: opens a block.", "12 CALL routine a (0 .. 3).",
+        "13 MAKE row a, dial b.", "14 DROP row a.", "15 COUNT row a, dial b.", "16 GET row a, dial b, dial c.",
+        "17 PUT row a, dial b, dial c.", "18 FIT row a (16, 17), dial b.", "19 SET dial a to b eighths.",
+        "20 FINE a (0 .. 13), dial b, dial c.", "21 ROUGH a (0 .. 13), dial b, dial c.", "22 WHOLE a (0 .. 7), dial b, dial c.",
+        "23 WIDE a (0 .. 7), dial b, dial c.", "24 NOTE dial a."};
+
     private static void arguments() {
         checks.sentence("-1: what is not 0 .. 24, or a number, kind, dial, row, routine among its arguments is none that is told; else -2:");
         for (int what = 0; what <= 24; what++) {
+            checks.sentence(WORDS[what]);
             int[] told = TOLD[what];
             for (int edge : EDGES) {
                 boolean a = told[1] < 0 || (edge >= told[0] && edge <= told[1]);
                 takes(what, edge, 0, 0, a);
                 takes(what, told[0], edge, 0, told[2] < 0 || (edge >= 0 && edge <= told[2]));
                 takes(what, told[0], 0, edge, told[3] < 0 || (edge >= 0 && edge <= told[3]));
+            }
+            // Every argument at its most, and one of them just above that.
+            int[] most = {told[1], told[2], told[3]};
+            takes(what, most[0], most[1], most[2], true);
+            for (int i = 0; i < 3; i++) {
+                int[] above = most.clone();
+                above[i]++;
+                takes(what, above[0], above[1], above[2], most[i] < 0);
             }
         }
     }
@@ -51,6 +72,8 @@ public final class StepTest implements Steps {
         String call = "step(" + what + ", " + a + ", " + b + ", " + c + ")";
         checks.due(call, x.step(what, a, b, c), due ? 4 : -1);
         checks.due("count(0) behind " + call, x.count(0), due ? 4 : 3);
+        int opens = what == TRY || what == LOOP || what == IF ? 1 : what == END ? -1 : 0;
+        checks.due("count(1) behind " + call, x.count(1), due ? 2 + opens : 2);
     }
 
     private static void unknownSteps() {

@@ -36,6 +36,7 @@ public final class SumEdgesTest implements Steps {
         wides();
         wideRange();
         oneDialForBoth();
+        everyDial();
         checks.end();
     }
 
@@ -552,6 +553,25 @@ public final class SumEdgesTest implements Steps {
             for (int sum = 0; sum <= 7; sum++) {
                 Script s = new Script(checks).add(SET, 7, 24).add(what, sum, 7, 7).runs(0);
                 checks.due("step(" + what + ", " + sum + ", 7, 7) of 3", s.x.dial(7), dueWhole[sum]);
+            }
+        }
+    }
+
+    private static void everyDial() {
+        checks.sentence("FINE, by doubles: dial b becomes: with x, y the doubles of dials b, c:");
+        for (int what = FINE; what <= WIDE; what++) {
+            for (int b = 0; b < 8; b++) {
+                for (int c = 0; c < 8; c++) {
+                    Script s = new Script(checks);
+                    for (int d = 0; d < 8; d++) {
+                        s.add(SET, d, 8 << d);
+                    }
+                    // Dial d is 2 to the d: the difference tells which were taken, and in which order.
+                    s.add(what, 1, b, c).runs(0);
+                    for (int d = 0; d < 8; d++) {
+                        checks.due("dial(" + d + ") behind step(" + what + ", 1, " + b + ", " + c + ")", s.x.dial(d), d == b ? (1 << b) - (1 << c) : 1 << d);
+                    }
+                }
             }
         }
     }
