@@ -463,27 +463,23 @@ public final class GaugeBench {
             places = MISSING;
         }
 
-        int faultAt(int i) {
+        /** Only a place that is to be fitted need not be ready. */
+        int faultAt(int i, boolean toFit) {
             if (places < 0) {
                 return Fault.MISSING;
             }
-            return i >= 0 && i < places && i < MOST_PLACES ? Fault.NONE : Fault.PLACE;
-        }
-
-        int faultOfUse(int i) {
-            int fault = faultAt(i);
-            if (fault != Fault.NONE) {
-                return fault;
+            if (i < 0 || i >= places || i >= MOST_PLACES) {
+                return Fault.PLACE;
             }
-            return ready[i] ? Fault.NONE : Fault.MISSING;
+            return toFit || ready[i] ? Fault.NONE : Fault.MISSING;
         }
 
         double got(int i) {
-            return faultOfUse(i) == Fault.NONE ? doubles[i] : 0;
+            return faultAt(i, false) == Fault.NONE ? doubles[i] : 0;
         }
 
         int put(int i, double from) {
-            int fault = faultOfUse(i);
+            int fault = faultAt(i, false);
             if (fault == Fault.NONE) {
                 doubles[i] = asHeld(from);
             }
@@ -491,7 +487,7 @@ public final class GaugeBench {
         }
 
         int fit(int i) {
-            int fault = faultAt(i);
+            int fault = faultAt(i, true);
             if (fault == Fault.NONE) {
                 doubles[i] = 0;
                 ready[i] = true;
@@ -500,7 +496,7 @@ public final class GaugeBench {
         }
 
         boolean holdsProbe(int i) {
-            return kind == PROBES && faultOfUse(i) == Fault.NONE;
+            return kind == PROBES && faultAt(i, false) == Fault.NONE;
         }
 
         private double asHeld(double from) {
@@ -565,8 +561,8 @@ public final class GaugeBench {
                 case REST: return rest(x, y);
                 case 5: return isLess(x, y) ? x : y;
                 case 6: return isLess(x, y) ? y : x;
-                case 7: return withSign(x, y);
-                case 8: return withSign(y, 1);
+                case 7: return hasMinus(x) == hasMinus(y) ? x : -x;
+                case 8: return hasMinus(y) ? -y : y;
                 case 9: return wholeBelow(y);
                 case 10: return -wholeBelow(-y);
                 case 11: return nearestWhole(y);
@@ -575,14 +571,18 @@ public final class GaugeBench {
             }
         }
 
-        /** Where it divides, y is not 0. From REST on, floats leave just what their doubles do. */
-        static double rough(int sum, float x, float y) {
+        /** Behind QUOTIENT floats leave just what their doubles do, so FINE's sums do for them. */
+        static boolean roundsFloats(int sum) {
+            return sum <= QUOTIENT;
+        }
+
+        /** The sums that round floats. Where it divides, y is not 0. */
+        static float rough(int sum, float x, float y) {
             switch (sum) {
                 case 0: return x + y;
                 case 1: return x - y;
                 case 2: return x * y;
-                case QUOTIENT: return x / y;
-                default: return fine(sum, x, y);
+                default: return x / y;
             }
         }
 
@@ -609,12 +609,9 @@ public final class GaugeBench {
             return x < 0 || (x == 0 && 1 / x < 0);
         }
 
+        /** Of two that are like, only 0 and -0 are told apart by this. */
         private static boolean isLess(double x, double y) {
-            return x < y || (x == y && hasMinus(x));
-        }
-
-        private static double withSign(double x, double y) {
-            return hasMinus(x) == hasMinus(y) ? x : -x;
+            return x < y || (x == y && 1 / x < 0);
         }
 
         /** No dial is so great that a long could not hold its whole number. */
@@ -763,7 +760,7 @@ public final class GaugeBench {
                 case Step.TELL:
                     return caught == null ? AT_END : useCaught(step, caught);
                 default:
-                    return throwNew(work(step), step);
+                    return throwNew(step.what < Step.SET ? workWithRow(step) : workWithDials(step), step);
             }
         }
 
@@ -864,28 +861,9 @@ public final class GaugeBench {
             }
         }
 
-        /** Answers the kind of the fault, if it is one; so do those that it asks. */
-        private int work(Step step) {
-            switch (step.what) {
-                case Step.SET:
-                    return dials.turn(step.a, step.b / 8.0);
-                case Step.FINE:
-                    return doFine(step);
-                case Step.ROUGH:
-                    return doRough(step);
-                case Step.WHOLE:
-                    return doWhole(step);
-                case Step.WIDE:
-                    return doWide(step);
-                case Step.NOTE:
-                    numbers.append(dials.at(step.a));
-                    return Fault.NONE;
-                default:
-                    return workWithRow(step, rowAt(step.a));
-            }
-        }
-
-        private int workWithRow(Step step, Row row) {
+        /** Answers the kind of the fault, if it is one; so do the others that work. */
+        private int workWithRow(Step step) {
+            Row row = rowAt(step.a);
             if (row == null) {
                 return Fault.MISSING;
             }
@@ -908,8 +886,26 @@ public final class GaugeBench {
         }
 
         private int getInto(int dial, Row row, int i) {
-            int fault = row.faultOfUse(i);
+            int fault = row.faultAt(i, false);
             return fault == Fault.NONE ? dials.turn(dial, row.got(i)) : fault;
+        }
+
+        private int workWithDials(Step step) {
+            switch (step.what) {
+                case Step.SET:
+                    return dials.turn(step.a, step.b / 8.0);
+                case Step.FINE:
+                    return doFine(step);
+                case Step.ROUGH:
+                    return doRough(step);
+                case Step.WHOLE:
+                    return doWhole(step);
+                case Step.WIDE:
+                    return doWide(step);
+                default:
+                    numbers.append(dials.at(step.a));
+                    return Fault.NONE;
+            }
         }
 
         private int doFine(Step step) {
@@ -927,7 +923,7 @@ public final class GaugeBench {
             if (Sums.divides(step.a) && y == 0) {
                 return Fault.ZERO;
             }
-            return dials.turn(step.b, Sums.rough(step.a, x, y));
+            return dials.turn(step.b, Sums.roundsFloats(step.a) ? Sums.rough(step.a, x, y) : Sums.fine(step.a, x, y));
         }
 
         private int doWhole(Step step) {
